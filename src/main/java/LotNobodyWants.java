@@ -572,7 +572,7 @@ public final class LotNobodyWants {
     /** PEOPLE, TICKETS, HOUR and SEEN: all numbers of mend(), by what and number. */
     private static final class Year {
         private static final int[] LARGEST = {12, 1, 99, 9, 5, 1, 4, 11, 9};
-        private static final int WARY_AT_FIRST = 6, PRICE_AT_FIRST = 10;
+        private static final int PRICE_AT_FIRST = 10;
 
         private final int[][] numbers;
         private int people;
@@ -581,7 +581,6 @@ public final class LotNobodyWants {
         Year() {
             numbers = new int[SEEN + 1][MOST_TICKETS];
             for (int one = 0; one < MOST_PEOPLE; one++) {
-                numbers[WARY][one] = WARY_AT_FIRST;
                 numbers[PRICE][one] = PRICE_AT_FIRST;
             }
         }
@@ -1195,12 +1194,14 @@ public final class LotNobodyWants {
 
     /** BEHIND: all ways of an EVE that end with the HOLDERS told. */
     private static final class Ways {
-        private static final int ANY = -1;
+        private static final int ANY = -1, UNKNOWN = -1;
 
         private final Year year;
         private final Thought thought;
         private final Eve evening;
         private final int[] told;
+        /** Odds by SLIPPING, holder and how many the other one has: the ways ask for the same ones over and over. */
+        private final int[] known;
         private boolean weighs;
         private int howMany;
         private int fewest;
@@ -1214,11 +1215,15 @@ public final class LotNobodyWants {
             this.thought = thought;
             this.evening = evening;
             told = new int[MOST_TICKETS];
+            known = new int[MOST_SLIPPINGS * MOST_PEOPLE * MOST_TICKETS];
         }
 
         void goThrough(Shelves shelves, int shelf, boolean byOdds) {
             for (int ticket = 0; ticket < MOST_TICKETS; ticket++) {
                 told[ticket] = ticket < shelves.sizeOf(shelf) ? (int) shelves.get(shelf, ticket) : ANY;
+            }
+            for (int place = 0; place < known.length && byOdds; place++) {
+                known[place] = UNKNOWN;
             }
             weighs = byOdds;
             howMany = 0;
@@ -1243,12 +1248,25 @@ public final class LotNobodyWants {
                 spread(ways, k + 1, bits, 12 * weight);
                 return;
             }
-            int odds = ways.weighs ? thought.oddsOf(ticket, to) : 0;
+            int odds = ways.weighs ? ways.oddsAt(k, ticket, to) : 0;
             int from = thought.holderOf(ticket);
             spread(ways, k + 1, bits, (12 - odds) * weight);
             thought.give(ticket, to);
             spread(ways, k + 1, bits | 1 << k, odds * weight);
             thought.give(ticket, from);
+        }
+
+        private int oddsAt(int k, int ticket, int to) {
+            int from = thought.holderOf(ticket);
+            int has = thought.heldBy(to);
+            int place = (k * MOST_PEOPLE + from) * MOST_TICKETS + has;
+            if (place < 0 || place >= known.length) {
+                return 0;
+            }
+            if (known[place] == UNKNOWN) {
+                known[place] = thought.oddsBy(from, to, has, year.get(FOLDS, ticket), year.hourNow());
+            }
+            return known[place];
         }
 
         private void arrive(int bits, long weight) {

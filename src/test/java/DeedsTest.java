@@ -9,6 +9,7 @@ public final class DeedsTest {
         undo();
         redo();
         mostChanges();
+        mostChangesOfAllSorts();
         deedsAreNoChanges();
         Check.finish();
     }
@@ -39,8 +40,14 @@ public final class DeedsTest {
         Check.due("well -1, and it can't be", x.slip(1, -1), -1);
         x.mend(0, 6, 4);
         Check.due("folded four times", x.slip(0, 1), -5);
-        Check.due("SLIPPINGS", x.led(0), 3);
-        Check.due("well", x.led(1), 2);
+        for (int k = 0; k < 4; k++) {
+            x.ticket(0, 0);
+        }
+        Check.due("the sixth ticket", x.slip(41, 1), 1);
+        Check.due("its HOLDER", x.of(5, 4), 1);
+        Check.due("not the third's", x.of(2, 4), 0);
+        Check.due("SLIPPINGS", x.led(0), 4);
+        Check.due("well", x.led(1), 3);
     }
 
     private static void fold() {
@@ -182,6 +189,38 @@ public final class DeedsTest {
         }
         Check.due("PRICE again", x.of(0, 2), 55);
         Check.due("no more", x.redo(), -5);
+    }
+
+    /** Sixty changes of numbers of all sorts, stepped back and forth through the forty kept. */
+    private static void mostChangesOfAllSorts() {
+        LotNobodyWants x = scene();
+        String[] was = new String[61];
+        was[0] = numbers(x);
+        for (int k = 1; k <= 60; k++) {
+            int what = k * 5 % 9;
+            int number = what < 4 ? k % 3 : what < 7 ? k % 2 : 0;
+            x.mend(number, what, x.of(number, what) == 0 ? 1 : 0);
+            was[k] = numbers(x);
+        }
+        for (int k = 59; k >= 20; k--) {
+            Check.due("undo to " + k, x.undo(), k - 20);
+            Check.due("all is as after " + k, numbers(x).equals(was[k]) ? 1 : 0, 1);
+        }
+        Check.due("no more is kept", x.undo(), -5);
+        for (int k = 21; k <= 60; k++) {
+            Check.due("redo to " + k, x.redo(), 60 - k);
+            Check.due("all is as after " + k + " again", numbers(x).equals(was[k]) ? 1 : 0, 1);
+        }
+    }
+
+    private static String numbers(LotNobodyWants x) {
+        StringBuilder text = new StringBuilder();
+        for (int what = 0; what < 9; what++) {
+            for (int number = 0; number < 3; number++) {
+                text.append(x.of(number, what)).append(' ');
+            }
+        }
+        return text.toString();
     }
 
     private static void deedsAreNoChanges() {

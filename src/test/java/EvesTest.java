@@ -3,6 +3,7 @@ public final class EvesTest {
     private static final long NONE = Long.MIN_VALUE;
 
     public static void main(String[] args) {
+        laterAlone();
         byWell();
         wellByText();
         endsOfEves();
@@ -31,6 +32,15 @@ public final class EvesTest {
         return x;
     }
 
+    private static void laterAlone() {
+        LotNobodyWants x = scene();
+        Check.bytes(x, 0, 16, 24);
+        Check.due("later of 2", x.later(0, 12, 2), 0);
+        Check.due("later of 3", x.later(0, 12, 3), 0);
+        Check.due("later of 3, but one", x.later(0, 1, 3), 2);
+        Check.due("later of no ticket", x.later(0, 1, 4), -1);
+    }
+
     private static void byWell() {
         LotNobodyWants x = scene();
         // 0 to 1 (well), 0 to 1 again (left out), 1 to 2 (not), 3 to 0 (well), 2 to 0 (well).
@@ -51,6 +61,9 @@ public final class EvesTest {
         x.mend(1, 6, 4);
         x.mend(0, 1, 1);
         Check.due("folded, and to a child", x.eve(0, 12, -2), 2 + 4 + 8 + 16);
+        x.mend(1, 6, 0);
+        x.mend(0, 1, 0);
+        Check.due("no longer", x.eve(0, 12, -2), 2);
     }
 
     private static void wellByText() {
@@ -153,6 +166,11 @@ public final class EvesTest {
         x.ticket(2, 0);
         x.ticket(2, 1);
         Check.due("of like ones the least", x.likeliest(), 0);
+        LotNobodyWants z = scene();
+        z.mend(1, 5, 1);
+        z.mend(0, 4, 1);
+        Check.due("with one each", z.likeliest(), 1);
+        Check.due("safe with a forged one of two", z.safe(), 1);
         x.mend(0, 4, 2);
         Check.due("likeliest then", x.likeliest(), 2);
         x.mend(1, 4, 2);
@@ -185,6 +203,16 @@ public final class EvesTest {
         y.person(1);
         y.ticket(0, 0);
         Check.due("his own alone", y.watch(0), -2);
+        y.person(12);
+        y.person(5);
+        Check.due("ticket 0, odds 0", y.watch(1), 0);
+        Check.due("ticket 0", y.watch(2), 700);
+        y.ticket(1, 0);
+        Check.due("by the like odds of two, the least", y.watch(2), 700);
+        Check.tell(y, "b=12?3;7");
+        Check.due("greater odds go first", y.watch(2), 700);
+        Check.tell(y, "b=12?8;7");
+        Check.due("of a later one, too", y.watch(2), 801);
     }
 
     private static void rid() {
@@ -228,6 +256,9 @@ public final class EvesTest {
         x.ticket(0, 0);
         Check.tell(x, "n=0?12;0");
         Check.due("one to each", x.rid(0, 3, 0), x.rid(0, 3, 1), 2, 3);
+        Check.tell(x, "n=1?12;n=0?6;0");
+        Check.due("the second one is surer", x.rid(0, 2, 0), x.rid(0, 2, 1), 5, 12);
+        Check.due("and begins with either, the least", x.first(0, 2), 1);
         // Folded ones go in the second hour alone.
         x.mend(0, 7, 0);
         x.mend(1, 6, 2);

@@ -56,6 +56,12 @@ public final class ModelTest {
 
     private void call(boolean atFirst) {
         int sort = random.nextInt(atFirst ? 12 : 48);
+        if (!atFirst && run % 5 == 1 && random.nextInt(3) != 0) {
+            sort = random.nextInt(4) != 0 ? 4 : in(34, 35);
+        }
+        if (!atFirst && run % 5 == 2 && random.nextInt(6) == 0) {
+            sort = random.nextBoolean() ? 10 : 24;
+        }
         if (sort < 12) makePeopleAndTickets(sort);
         else if (sort < 26) think(sort);
         else if (sort < 36) doDeeds(sort);
@@ -168,16 +174,17 @@ public final class ModelTest {
     }
 
     private void layEvening() {
-        int shelf = in(0, 2), n = in(0, 9);
+        int shelf = in(0, 2), n = in(0, 9), often = ticket(), seldom = in(1, 3);
         if (random.nextInt(20) == 0) n = in(10, 15);
         due("row", x.row(shelf, 0, n), m.row(shelf, 0, n));
         for (int k = 0; k < n; k++) {
             int v = random.nextInt(25) == 0 ? near(-3, 100) : tp();
+            if (random.nextInt(3) >= seldom) v = 8 * often + one();
             due("put", x.put(shelf, k, v), m.put(shelf, k, v));
         }
         due("row", x.row(3, 0, 12), m.row(3, 0, 12));
         for (int k = 0; k < 12; k++) {
-            int v = random.nextInt(3) != 0 ? -1 : one();
+            int v = random.nextInt(3) != 0 && (seldom == 3 || k != often) ? -1 : one();
             due("put", x.put(3, k, v), m.put(3, k, v));
         }
     }

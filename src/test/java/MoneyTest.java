@@ -53,6 +53,16 @@ public final class MoneyTest {
         x.mend(1, 2, 0);
         Check.due("for nothing, and dearest", x.hire(0, 3, 0), 198);
         Check.due("the dearest gets the last", x.hire(0, 3, 1), 2);
+        LotNobodyWants y = people(6, 6, 6);
+        for (int k = 0; k < 12; k++) {
+            y.ticket(2, 0);
+        }
+        y.mend(0, 3, 5);
+        y.mend(1, 3, 9);
+        Check.due("all twelve", y.hire(2, 12, 0), 120);
+        Check.due("all twelve, the last", y.hire(2, 12, 1), 1);
+        Check.due("five of like prices", y.hire(2, 5, 1), 0);
+        Check.due("six of like prices", y.hire(2, 6, 1), 1);
     }
 
     private static void friend() {
@@ -108,6 +118,14 @@ public final class MoneyTest {
             x.ticket(one, 0);
         }
         Check.due("two of four", x.half(), 3);
+        LotNobodyWants six = people(6, 6, 6, 6, 6, 6);
+        for (int one = 0; one < 6; one++) {
+            six.ticket(one, 0);
+        }
+        Check.due("three of six", six.half(), 7);
+        six.mend(0, 6, 4);
+        Check.due("a folded one is one", six.friend(1, 12), -2);
+        Check.due("all others", six.friend(0, 12), 5);
         x.ticket(2, 0);
         Check.due("2 has two of five: with 0", x.half(), 5);
         x.ticket(2, 0);
@@ -169,6 +187,33 @@ public final class MoneyTest {
         Check.bytes(x, 0, 1, 1);
         x.row(1, 0, 0);
         Check.due("left out at no cost", x.behind(0, 1, 4), 1);
+        x.mend(1, 0, 9);
+        Check.due("odds 3: neither", x.behind(0, 1, 4), 0);
+        x.mend(1, 0, 6);
+        Check.due("one half, or a half of it: the first", x.behind(0, 1, 4), 1);
+        // Two of like odds: either alone is as likely, the least bits go first.
+        LotNobodyWants y = people(6, 6, 6);
+        y.ticket(0, 0);
+        y.ticket(0, 0);
+        Check.bytes(y, 0, 1, 9);
+        y.row(1, 0, 0);
+        Check.due("all four ways are alike", y.behind(0, 1, 4), 0);
+        Check.bytes(y, 1, 1, 0);
+        Check.due("just the first", y.behind(0, 1, 4), 1);
+        Check.bytes(y, 0, 2, 1, 2, 1);
+        Check.bytes(y, 1, 1);
+        Check.due("the fewest of several: the least", y.behind(0, 1, 2), 2);
+        Check.bytes(y, 0, 1, 2, 2, 1, 0, 2);
+        Check.bytes(y, 1, 2);
+        Check.due("one of three", y.behind(0, 1, 2), 2);
+        // To 1 by 0, 0 by 1, 1 by 0: the first or the third alone; two never do.
+        Check.bytes(y, 0, 8, 1, 0, 1);
+        Check.bytes(y, 1, 1);
+        Check.due("the second or the fourth", y.behind(0, 1, 2), 2);
+        Check.due("ways of them", y.behind(0, 1, 0), 3);
+        Check.bytes(y, 0, 2, 1, 2, 1);
+        y.mend(1, 0, 4);
+        Check.due("odds 8 are taken at once", y.behind(0, 1, 4), 2);
     }
 
     private static void behindRefusals() {
@@ -198,6 +243,7 @@ public final class MoneyTest {
         Check.due("below 0", x.drawn(1, -101, 0), -1);
         Check.due("nobody", x.drawn(1, 101, 2), -1);
         Check.due("one -2", x.drawn(1, 101, -2), -1);
+        Check.due("a year of one", x.drawn(1, 101, 0) + x.drawn(1, 101, 1), 1);
         Check.due("who is king in 30 years", x.drawn(99, 3030, 0) + x.drawn(99, 3030, 1), 30);
         Check.due("in deed all stays", x.of(0, 4), 0);
         x.mend(0, 5, 1);

@@ -117,6 +117,7 @@ public final class ShelvesTest {
         LotNobodyWants x = ofAllKinds();
         Check.due("sixty", x.row(0, 3, 60), 1);
         Check.due("last", x.put(0, 59, 1), 1);
+        Check.due("first", x.put(0, 0, 1), 1);
         Check.due("behind it", x.put(0, 60, 1), -13);
         Check.due("61", x.row(0, 3, 61), -1);
         Check.due("sort 5", x.row(0, 5, 1), -1);
@@ -126,6 +127,7 @@ public final class ShelvesTest {
         Check.due("the row stays", x.element(0, 59), 1);
         Check.due("anew", x.row(0, 3, 60), 1);
         Check.due("of zeros", x.element(0, 59), 0);
+        Check.due("from the first on", x.element(0, 0), 0);
         Check.due("of none", x.row(0, 4, 0), 1);
         Check.due("holds none", x.element(0, 0), NONE);
     }
