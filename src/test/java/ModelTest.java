@@ -2,12 +2,18 @@ import java.util.Random;
 
 /** Long runs of drawn calls: the class must answer each as Model does. */
 public final class ModelTest {
-    private static final int RUNS = 2500, CALLS = 500;
+    private static final int RUNS = 12000, CALLS = 512;
 
     private final Random random;
     private final LotNobodyWants x = new LotNobodyWants();
     private final Model m = new Model();
     private final int run;
+    private int calls;
+
+    /** An object is used for so many calls and no more. */
+    private static final class Used extends RuntimeException {
+        private static final long serialVersionUID = 1;
+    }
 
     private ModelTest(int run) {
         this.run = run;
@@ -16,12 +22,19 @@ public final class ModelTest {
 
     public static void main(String[] args) {
         for (int run = 0; run < RUNS && Check.wrongOnes() == 0; run++) {
-            ModelTest test = new ModelTest(run);
-            for (int k = 0; k < CALLS && Check.wrongOnes() == 0; k++) {
-                test.call(k < 40 && run % 4 != 0);
-            }
+            new ModelTest(run).useUp();
         }
         Check.finish();
+    }
+
+    private void useUp() {
+        try {
+            for (int k = 0; Check.wrongOnes() == 0; k++) {
+                call(k < 40 && run % 4 != 0);
+            }
+        } catch (Used e) {
+            return;
+        }
     }
 
     private int in(int from, int to) {
@@ -52,6 +65,10 @@ public final class ModelTest {
 
     private void due(String call, long got, long want) {
         Check.due("run " + run + ": " + call, got, want);
+        calls++;
+        if (calls == CALLS) {
+            throw new Used();
+        }
     }
 
     private void call(boolean atFirst) {
