@@ -18,6 +18,8 @@ public final class EdgesLawTest {
         signsGiveOneOrZero();
         signsBindAsWritten();
         whichLineCounts();
+        noneOfALongerTextBefore();
+        eachByteIsWorkedOut();
         heldWithinTwelve();
         withoutAText();
         namesInTheOdds();
@@ -354,6 +356,29 @@ public final class EdgesLawTest {
         odds("1-1?5;1=1?8;9", 8);
         odds("w?3;4", 3);
         odds("w-9?3;4", 4);
+    }
+
+    /** "none: 0", whatever stood in a TEXT that was THE LAW before, or was none. */
+    private static void noneOfALongerTextBefore() {
+        LotNobodyWants x = scene();
+        Check.due("a long text", Check.tell(x, "1;2;3;4;5;6;7;8;9;10;11"), 1);
+        Check.due("its first line", x.odds(1), 1);
+        Check.due("a short one", Check.tell(x, "0?5"), 1);
+        Check.due("none of its lines", x.odds(1), 0);
+        Check.due("a fault in a long one", Check.tell(x, "7;7;7;7;7;7;7;7;7;7;7;"), -122);
+        Check.due("still none", x.odds(1), 0);
+        Check.due("a shorter one", Check.tell(x, "0?6;0?7"), 1);
+        Check.due("none of these", x.odds(1), 0);
+        Check.due("the shortest", Check.tell(x, "4"), 1);
+        Check.due("is all", x.odds(1), 4);
+    }
+
+    /** 120 bytes of which each is worked out: all of them count. */
+    private static void eachByteIsWorkedOut() {
+        odds("!0" + "+0".repeat(58) + "+4", 5);
+        odds("-1" + "+0".repeat(58) + "+9", 8);
+        odds("0?1;".repeat(29) + "!0+3", 4);
+        odds("((((((1))))))" + "*1".repeat(52) + "*6", 6);
     }
 
     /** "(held within 0 .. 12)" */

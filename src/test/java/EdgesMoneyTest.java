@@ -184,6 +184,15 @@ public final class EdgesMoneyTest {
         Check.due("from a child it may", x.friend(0, 9), 1);
         x.mend(2, 6, 0);
         Check.due("also the child's own", x.friend(0, 12), 2);
+        for (int own = 0; own < 12; own++) {
+            LotNobodyWants y = Scenes.people(6, 6);
+            for (int k = 0; k < 12; k++) {
+                y.ticket(k == own ? 1 : 0, 0);
+                y.mend(k, 6, k == own ? 0 : 4);
+            }
+            Check.due("his own doesn't come to him, " + own, y.friend(1, 2), -2);
+            Check.due("it is his already, " + own, y.friend(1, 1), 0);
+        }
     }
 
     /** "no real one: 0 for x 0, else NOT" */

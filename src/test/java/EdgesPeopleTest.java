@@ -3,6 +3,7 @@ public final class EdgesPeopleTest {
     private static final int LEAST = Integer.MIN_VALUE, GREATEST = Integer.MAX_VALUE;
 
     public static void main(String[] args) {
+        constants();
         aYearNobodyNoTickets();
         objectsAreApart();
         usedForAtMost512Calls();
@@ -19,6 +20,15 @@ public final class EdgesPeopleTest {
         tapeHolds120();
         theTapeIsEmptyThen();
         Check.finish();
+    }
+
+    /** "BAD (-1) .. NOT (-2) .. FULL (-3); STATE (-5) .. VOID is -2000000000." */
+    private static void constants() {
+        Check.due("BAD", LotNobodyWants.BAD, -1);
+        Check.due("NOT", LotNobodyWants.NOT, -2);
+        Check.due("FULL", LotNobodyWants.FULL, -3);
+        Check.due("STATE", LotNobodyWants.STATE, -5);
+        Check.due("VOID", LotNobodyWants.VOID, -2000000000);
     }
 
     /** "LotNobodyWants(): A year, nobody, no tickets." */

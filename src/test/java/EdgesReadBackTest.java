@@ -11,6 +11,8 @@ public final class EdgesReadBackTest {
         certainOnes();
         likeliestByOdds();
         likeliestOfLikeOnes();
+        leftOutTakesNoOdds();
+        likeliestAsLikelyTells();
         longestEve();
         yearsAndSlippings();
         whoIsDrawn();
@@ -229,6 +231,53 @@ public final class EdgesReadBackTest {
         Check.due("all eight alike", y.behind(0, 1, 4), 0);
         told(y, -1, 1);
         Check.due("four alike", y.behind(0, 1, 4), 2);
+    }
+
+    /** What can't be surely does not: ways of like odds with one left out and without. */
+    private static void leftOutTakesNoOdds() {
+        LotNobodyWants x = Scenes.people(6, 4);
+        x.ticket(0, 0);
+        x.row(1, 0, 0);
+        // On 1 at 8, back on 0 at 6: none (4 of twelve; then it is with 0) as likely as both, or the first.
+        Check.bytes(x, 0, 1, 0);
+        Check.due("left out in the way of the least bits", x.behind(0, 1, 4), 0);
+        LotNobodyWants y = Scenes.people(6, 6);
+        Scenes.tickets(y, 0, 0);
+        y.mend(1, 6, 1);
+        Check.tell(y, "f=1?12;n=0?4;6");
+        told(y, -1, 1);
+        // 0 at 4, 1 surely, 0 at 6: 8 * 6 twelfths fail twice, as many the first time alone, 4 * 12 go at once.
+        Check.bytes(y, 0, 1, 9, 1);
+        Check.due("left out in one of more bits", y.behind(0, 1, 4), 2);
+    }
+
+    /** The LIKELIEST WAY of all TICKETS is the set that is LIKELY most. */
+    private static void likeliestAsLikelyTells() {
+        String[] texts = {"12-w", "b+n", "3+n*4-b", "n*6", "12-n*5-f", "11-b*2+w", "b<w?9-n;2+n*3", "h+5-n*2"};
+        int[][] eves = {
+            {9, 18, 1, 10, 17, 2}, {1, 2, 0, 9, 10, 8}, {10, 8, 17, 16, 1, 9}, {16, 0, 8, 17, 1, 9}, {2, 10, 16, 0, 8, 17}, {25, 1, 26, 2, 24, 0}
+        };
+        for (String text : texts) {
+            for (int[] evening : eves) {
+                LotNobodyWants x = Scenes.people(3, 5, 1);
+                Scenes.tickets(x, 0, 1, 2, 1);
+                x.mend(2, 6, 1);
+                Check.tell(x, text);
+                Check.bytes(x, 0, evening);
+                x.row(1, 0, 0);
+                int best = -2;
+                double most = 0;
+                for (int set = 0; set < 64; set++) {
+                    // Of six SLIPPINGS all odds are whole in parts of 12 to the sixth.
+                    double odds = 2985984.0 / x.likely(0, set, 1) * x.likely(0, set, 0);
+                    if (odds > most) {
+                        most = odds;
+                        best = set;
+                    }
+                }
+                Check.due("likeliest by " + text + " of " + evening[0] + " " + evening[1], x.behind(0, 1, 4), best);
+            }
+        }
     }
 
     /** Twelve SLIPPINGS at 6 of twelve each, 4096 ways: their odds by 12 to the 12th stay whole. */

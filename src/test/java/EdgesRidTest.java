@@ -142,6 +142,10 @@ public final class EdgesRidTest {
         x.mend(5, 0, 3);
         rid("on the last one", x, 0, 1, 3, 4);
         Check.due("the last one", x.first(0, 1), 5);
+        x.mend(0, 4, 1);
+        rid("on the first one", x, 1, 1, 1, 1);
+        Check.due("the first one", x.first(1, 1), 0);
+        rid("on the first one in two hours", x, 1, 2, 1, 1);
         LotNobodyWants y = Scenes.people(9, 9, 9, 9, 9, 0);
         for (int k = 0; k < 11; k++) {
             y.ticket(5, 0);
